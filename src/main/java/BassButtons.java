@@ -20,6 +20,7 @@ public final class BassButtons {
     private static final int COLUMNS = 12;
     private static final int ROWS = 6;
     private static final int ALL_ROWS = 63;
+    private static final int FIRST_BASE = 0;
     private static final int COUNTER_ROW = 0;
     private static final int BASS_ROW = 1;
     private static final int FIRST_CHORD_ROW = 2;
@@ -41,6 +42,8 @@ public final class BassButtons {
     private static final int NO_BUTTON = -1;
     private static final int NO_BEAT = -1;
     private static final int NO_WAY = -1;
+    /** Above every rank, sum of jumps, cost and room that can come up. */
+    private static final int ABOVE_ALL = 1 << 30;
 
     /** What a turn costs by mark; the bellows never turn at a tied beat, so its number is not used. */
     private static final int[] TURN_COSTS = {3, 0, 1, 0};
@@ -59,8 +62,6 @@ public final class BassButtons {
         playing = new Hand();
         supposed = new Hand();
         pumping = new Bellows();
-        playing.learn(desk.base, desk.rows, desk);
-        settleHand();
     }
 
     // ---- the system
@@ -351,7 +352,7 @@ public final class BassButtons {
 
     /** All that keep() keeps. */
     private static final class Desk {
-        int base = 0;
+        int base = FIRST_BASE;
         int rows = ALL_ROWS;
         int register = 1;
         int room = 100;
@@ -454,7 +455,7 @@ public final class BassButtons {
             counterButton = board.lowButton(COUNTER_ROW, low);
             bassButton = board.lowButton(BASS_ROW, low);
             count = 0;
-            bestRank = Integer.MAX_VALUE;
+            bestRank = ABOVE_ALL;
             offer(NO_BUTTON, NO_BUTTON, 0, 0);
             offerSingles(board);
             // What fits wholly is not bettered by more buttons.
@@ -556,7 +557,9 @@ public final class BassButtons {
         /** By beat and setting: the fewest jumps from there to the end. */
         private final int[][] jumpsToCome = new int[MOST_BEATS][MOST_GOOD];
 
+        /** The system as at first and no beats: there is nothing to choose yet. */
         Hand() {
+            board.tune(FIRST_BASE, ALL_ROWS);
             for (int beat = 0; beat < MOST_BEATS; beat++) {
                 goods[beat] = new Goods();
             }
@@ -597,7 +600,7 @@ public final class BassButtons {
         }
 
         private int fewestOnward(int place, int next) {
-            int fewest = Integer.MAX_VALUE;
+            int fewest = ABOVE_ALL;
             for (int k = 0; k < goods[next].count; k++) {
                 int jump = Math.abs(place - goods[next].placeOf(k));
                 fewest = Math.min(fewest, jump + jumpsToCome[next][k]);
@@ -607,7 +610,7 @@ public final class BassButtons {
 
         private int firstBest(int previous, int beat) {
             int best = 0;
-            int fewest = Integer.MAX_VALUE;
+            int fewest = ABOVE_ALL;
             for (int k = 0; k < goods[beat].count; k++) {
                 int all = jumpFromChosen(previous, beat, k) + jumpsToCome[beat][k];
                 if (all < fewest) {
@@ -673,7 +676,8 @@ public final class BassButtons {
         final int[] uses = new int[MOST_BEATS];
         private final int[] marks = new int[MOST_BEATS];
         private int beats = 0;
-        int way = NO_WAY;
+        /** Or NO_WAY; 0 is also the one way through no beats, as at first. */
+        int way = 0;
         int price = 0;
         /** Above MOST_ROOM where no room is enough. */
         int leastRoom = 1;
@@ -688,8 +692,8 @@ public final class BassButtons {
 
         void choose(int start, int room) {
             way = NO_WAY;
-            price = Integer.MAX_VALUE;
-            leastRoom = Integer.MAX_VALUE;
+            price = ABOVE_ALL;
+            leastRoom = ABOVE_ALL;
             for (int tried = 0; tried < 1 << beats; tried++) {
                 int peak = turnsWhenTied(tried) ? NO_WAY : peakOf(tried, start);
                 if (peak == NO_WAY) {
